@@ -289,7 +289,8 @@ public final class IceType {
         if (!isWithin(n, 1, 20) || i < -1) {
             return refuse(BEYOND);
         }
-        rows.findBest(n);
+        rows.tryTurns(n);
+        rows.findBest();
         if (i == -1) {
             return rows.mostClear;
         }
@@ -535,7 +536,10 @@ public final class IceType {
     }
 
     private static int hold(int v, int least, int most) {
-        return Math.max(least, Math.min(most, v));
+        if (v < least) {
+            return least;
+        }
+        return v > most ? most : v;
     }
 
     private static int quotient(int v, int by) {
@@ -578,14 +582,6 @@ public final class IceType {
             }
             numbers[i] = v;
             return true;
-        }
-
-        int takeLast() {
-            if (length == 0) {
-                return 0;
-            }
-            length--;
-            return numbers[length];
         }
 
         void clear() {
@@ -691,21 +687,13 @@ public final class IceType {
         }
 
         int reads() {
-            return hold(readsUnheld(), 0, BEST_READ);
-        }
-
-        private int readsUnheld() {
-            int plain = quotient(ice, 10 + m);
-            switch (kind) {
-                case BOLD: return boldly(plain);
-                case CAPITAL: return boldly(ice / 10);
-                case OLD: return plain - 1;
-                default: return plain;
+            int read = quotient(ice, kind == CAPITAL ? 10 : 10 + m);
+            if (kind == BOLD || kind == CAPITAL) {
+                read += read > 0 ? 1 : 0;
+            } else if (kind == OLD) {
+                read--;
             }
-        }
-
-        private static int boldly(int plain) {
-            return plain > 0 ? plain + 1 : plain;
+            return hold(read, 0, BEST_READ);
         }
     }
 
@@ -714,56 +702,50 @@ public final class IceType {
      * -1 .. -4 a name, else an operator's sign below 0. Without codes there is no TEXT.
      */
     private static final class Law {
+        private static final int NAMES = 4;
+
         private final Row codes = new Row(TAPE_BYTES);
-        private final Row values = new Row(TAPE_BYTES);
+        private final int[] names = new int[NAMES];
+        private final int[] values = new int[TAPE_BYTES];
 
         boolean isTold() {
             return codes.length > 0;
         }
 
         int workOut(int first, int second, int third, int fourth) {
-            values.clear();
+            names[0] = first;
+            names[1] = second;
+            names[2] = third;
+            names[3] = fourth;
+            int top = 0;
             for (int i = 0; i < codes.length; i++) {
-                int code = codes.at(i);
-                switch (code) {
-                    case -1: values.add(first); break;
-                    case -2: values.add(second); break;
-                    case -3: values.add(third); break;
-                    case -4: values.add(fourth); break;
-                    case -'!': values.add(truth(values.takeLast() == 0)); break;
-                    default: workOutCode(code); break;
+                int code = codes.numbers[i];
+                if (code >= -NAMES && top < values.length) {
+                    values[top] = code >= 0 ? code : names[-1 - code];
+                    top++;
+                } else if (code == -'!' && top >= 1) {
+                    values[top - 1] = values[top - 1] == 0 ? 1 : 0;
+                } else if (top >= 2) {
+                    top--;
+                    values[top - 1] = join(-code, values[top - 1], values[top]);
                 }
             }
-            return values.takeLast();
-        }
-
-        private void workOutCode(int code) {
-            if (code >= 0) {
-                values.add(code);
-                return;
-            }
-            int right = values.takeLast();
-            int left = values.takeLast();
-            values.add(join(-code, left, right));
+            return values[0];
         }
 
         private static int join(int sign, int left, int right) {
             switch (sign) {
-                case '|': return truth(left != 0 || right != 0);
-                case '&': return truth(left != 0 && right != 0);
-                case '<': return truth(left < right);
-                case '=': return truth(left == right);
-                case '>': return truth(left > right);
+                case '|': return left != 0 || right != 0 ? 1 : 0;
+                case '&': return left != 0 && right != 0 ? 1 : 0;
+                case '<': return left < right ? 1 : 0;
+                case '=': return left == right ? 1 : 0;
+                case '>': return left > right ? 1 : 0;
                 case '+': return left + right;
                 case '-': return left - right;
                 case '*': return left * right;
-                case '/': return quotient(left, right);
+                case '/': return right == 0 ? 0 : left / right;
                 default: return right == 0 ? 0 : left % right;
             }
-        }
-
-        private static int truth(boolean is) {
-            return is ? 1 : 0;
         }
     }
 
@@ -973,25 +955,31 @@ public final class IceType {
         }
 
         int meltsOf(Letter letter) {
-            return hold(meltsUnheld(letter), 0, letter.ice);
-        }
-
-        private int meltsUnheld(Letter letter) {
             int coldThere = isWithin(letter.room, 0, ROOMS - 1) ? cold[letter.room] : 0;
-            int plain = Math.max(0, 5 - coldThere);
+            int melts = Math.max(0, 5 - coldThere);
             switch (letter.kind) {
-                case THIN: return plain + letter.ice / 10;
-                case BOLD: return plain / 2;
-                case SALTED: return plain + letter.ice / 10 + letter.m;
-                case CAPITAL: return plain / 2 + letter.age % 2;
-                case OLD: return plain + letter.age / 4;
-                case TOLD: return dripsOf(letter, coldThere);
-                default: return plain;
+                case THIN:
+                    melts += letter.ice / 10;
+                    break;
+                case BOLD:
+                    melts /= 2;
+                    break;
+                case SALTED:
+                    melts += letter.ice / 10 + letter.m;
+                    break;
+                case CAPITAL:
+                    melts = melts / 2 + letter.age % 2;
+                    break;
+                case OLD:
+                    melts += letter.age / 4;
+                    break;
+                case TOLD:
+                    melts = drips.isTold() ? drips.workOut(letter.ice, coldThere, letter.age, letter.m) : 3 - coldThere;
+                    break;
+                default:
+                    break;
             }
-        }
-
-        private int dripsOf(Letter letter, int coldThere) {
-            return drips.isTold() ? drips.workOut(letter.ice, coldThere, letter.age, letter.m) : 3 - coldThere;
+            return hold(melts, 0, letter.ice);
         }
 
         int seesOf(Letter letter, int sheetsSoFar) {
@@ -1173,8 +1161,8 @@ public final class IceType {
         }
 
         void passSheet() {
-            waitSheet();
             for (int i = 0; i < length; i++) {
+                letters[i].takeIce(shop.meltsOf(letters[i]));
                 letters[i].grow();
             }
             sheets++;
@@ -1192,15 +1180,6 @@ public final class IceType {
             while (clear < n && seen() >= CLEAR_FROM) {
                 passSheet();
                 clear++;
-            }
-            return clear;
-        }
-
-        int clearOf(int n) {
-            int clear = 0;
-            for (int i = 0; i < n; i++) {
-                clear += seen() >= CLEAR_FROM ? 1 : 0;
-                passSheet();
             }
             return clear;
         }
@@ -1223,8 +1202,22 @@ public final class IceType {
             this.ahead = ahead;
         }
 
-        void findBest(int n) {
-            tryTurns(n);
+        void tryTurns(int n) {
+            filled.clear();
+            for (int page = 0; page < PAGES; page++) {
+                if (shop.pages[page].length > 0) {
+                    filled.add(page);
+                }
+            }
+            clearByTurn.clear();
+            for (int i = 0; i < filled.length; i++) {
+                for (int turn = 0; turn < filled.length; turn++) {
+                    clearByTurn.add(clearInTurn(filled.at(i), turn, n));
+                }
+            }
+        }
+
+        void findBest() {
             int turns = filled.length;
             int bestRow = 0;
             mostClear = -1;
@@ -1242,27 +1235,17 @@ public final class IceType {
             }
         }
 
-        private void tryTurns(int n) {
-            filled.clear();
-            for (int page = 0; page < PAGES; page++) {
-                if (shop.pages[page].length > 0) {
-                    filled.add(page);
-                }
-            }
-            clearByTurn.clear();
-            for (int i = 0; i < filled.length; i++) {
-                for (int turn = 0; turn < filled.length; turn++) {
-                    clearByTurn.add(clearInTurn(filled.at(i), turn, n));
-                }
-            }
-        }
-
         private int clearInTurn(int page, int turn, int n) {
             ahead.startPage(page);
             for (int i = 0; i < turn * n; i++) {
                 ahead.waitSheet();
             }
-            return ahead.clearOf(n);
+            int clear = 0;
+            for (int i = 0; i < n; i++) {
+                clear += ahead.seen() >= CLEAR_FROM ? 1 : 0;
+                ahead.passSheet();
+            }
+            return clear;
         }
 
         /** -1: a page stands twice in it, or it names one that is not filled. */
