@@ -778,6 +778,12 @@ public final class PromiseTests {
         text(x, 1, "9*(r=5)");
         due("23: not less, not more", x.needs(0, 4), 75 + 12);
         due("23: no such ice", x.needs(0, 5), NONE);
+        x.untell(1);
+        x.set(1, 0, 6);
+        text(x, 0, "i*(i<999)");
+        due("23: only the most does not melt", x.needs(1, 2), 999);
+        text(x, 0, "i");
+        due("23: not even the most", x.needs(1, 2), NONE);
         x.sort(0);
         due("23: in no page", x.needs(0, 1), STATE);
         due("23: BEYOND first", x.needs(0, 31), BEYOND);
