@@ -1,14 +1,5 @@
 /** Each promise of the document by hand-made calls: ordinary inputs, edges, wrong inputs. */
-public final class PromiseTests {
-    private static final int BEYOND = -1000000001;
-    private static final int NONE = -1000000002;
-    private static final int STATE = -1000000003;
-    private static final int FULL = -1000000004;
-    private static final int KIND = -1000000005;
-    private static final int PARTED = -1000000006;
-    private static final int MIN = Integer.MIN_VALUE;
-    private static final int MAX = Integer.MAX_VALUE;
-
+public final class PromiseTests extends Sentences {
     private static int wrong = 0;
     private static int asked = 0;
 
@@ -18,29 +9,6 @@ public final class PromiseTests {
             wrong++;
             System.out.println(what + " answered " + got + ", due is " + want);
         }
-    }
-
-    private static int feed(IceType x, String text) {
-        int there = x.count(6);
-        for (int i = 0; i < text.length(); i++) {
-            there = x.feed(text.charAt(i), 1);
-        }
-        return there;
-    }
-
-    private static int text(IceType x, int use, String text) {
-        feed(x, text);
-        return x.text(use);
-    }
-
-    private static int word(IceType x, String text) {
-        feed(x, text);
-        return x.word();
-    }
-
-    private static int decree(IceType x, String text) {
-        feed(x, text);
-        return x.decree();
     }
 
     /** The value of a TEXT of DRIPS, shown by two looks as MELTS of a letter with much ice. */
