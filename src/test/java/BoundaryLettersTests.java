@@ -321,6 +321,12 @@ public final class BoundaryLettersTests extends Sentences {
             text(x, 0, "1+2+3+4");
             text(x, 0, "5");
             due(x.letterIs(0, 7), 5);
+            text(x, 0, "!!0");
+            text(x, 0, "5");
+            due(x.letterIs(0, 7), 5);
+            text(x, 1, "!!0");
+            text(x, 1, "5");
+            due(x.letterIs(0, 9), 5);
         });
         promise(10, "BEYOND (THE TAPE stays)", x -> {
             feed(x, "7");
@@ -518,6 +524,18 @@ public final class BoundaryLettersTests extends Sentences {
             due(x.letterIs(8, 5), 2);
             due(x.pageIs(1, 0), 0);
         });
+        promise(15, "(those of other PAGES stay)", x -> {
+            castSome(x, 24, 10);
+            x.lay(2, 0);
+            x.lay(1, 23);
+            x.lay(3, 22);
+            due(x.sort(1), 1);
+            due(x.letterIs(0, 5), 2);
+            due(x.letterIs(23, 5), -1);
+            due(x.letterIs(22, 5), 3);
+            due(x.sort(0), 0);
+            due(x.letterIs(0, 5), 2);
+        });
         promise(15, "(none in an empty one)", x -> {
             due(x.sort(0), 0);
             x.cast(0, 1, 0);
@@ -573,6 +591,15 @@ public final class BoundaryLettersTests extends Sentences {
             due(x.pageIs(0, 1), 100);
             due(x.press(0, 99), 0);
             due(x.press(1, 99), 99);
+        });
+        promise(17, "(the last LETTER that there may be melts, too)", x -> {
+            castSome(x, 24, 10);
+            x.have(0, 0);
+            x.lay(0, 23);
+            due(x.press(0, 1), 0);
+            due(x.letterIs(23, 3), 5);
+            due(x.letterIs(22, 3), 10);
+            due(x.letterIs(0, 3), 10);
         });
         promise(17, "BEYOND: PAGE", x -> beyond(0, 3, v -> x.press(v, 1)));
         promise(17, "BEYOND: n", x -> {

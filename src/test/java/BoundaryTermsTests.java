@@ -150,6 +150,19 @@ public final class BoundaryTermsTests extends Sentences {
             due(x.letterIs(0, 5), -1);
             due(x.letterIs(0, 6), 0);
         });
+        point(1, "(at first: of a number that a restored IMAGE has taken back, too)", x -> {
+            x.image();
+            x.cast(0, 1, 9);
+            x.set(0, 4, 3);
+            x.set(0, 6, 5);
+            x.lay(2, 0);
+            x.restore();
+            due(x.cast(11, 2, 8), 0);
+            int[] facts = {1, 1, 2, 8, 0, -1, 0};
+            for (int what = 0; what < facts.length; what++) {
+                due(x.letterIs(0, what), facts[what]);
+            }
+        });
         point(1, "AGE in sheets (0 .. 99)", x -> {
             x.cast(0, 1, 9);
             due(x.set(0, 6, 99), 0);
@@ -332,6 +345,19 @@ public final class BoundaryTermsTests extends Sentences {
             due(x.feed('1', 1), FULL);
             due(x.text(0), 1);
         });
+        point(2, "(60 of which each has a meaning of its own)", x -> {
+            due(gives("!0" + times(29, "+1")), 30);
+            due(gives("!!!!!0" + times(27, "+1")), 28);
+        });
+        point(2, "(each byte by itself: it may stand ahead, or behind a NUMBER, or a TEXT ends there)", x -> {
+            for (char sign = 0; sign < 256; sign++) {
+                boolean ahead = "0123456789icam".indexOf(sign) >= 0;
+                boolean opens = "!(".indexOf(sign) >= 0;
+                boolean joins = "|&<=>+-*/%0123456789".indexOf(sign) >= 0;
+                due(text(new IceType(), 0, "" + sign), ahead ? 1 : opens ? -11 : -10);
+                due(faultOf(0, "1" + sign + "1"), joins ? -11 : 1);
+            }
+        });
         point(2, "a NUMBER of 1 to 4 digits", x -> {
             due(gives("0"), 0);
             due(gives("0007"), 7);
@@ -349,6 +375,12 @@ public final class BoundaryTermsTests extends Sentences {
                 due(text(x, 1, name), 1);
             }
             due(faultOf(0, "ii"), 1);
+        });
+        point(2, "NAMES i ICE, c COLD, a AGE, m m", x -> {
+            due(gives("i"), 999);
+            due(gives("9+c"), 2);
+            due(gives("a"), 11);
+            due(gives("m"), 3);
         });
         point(2, "B: S, or S < S, S = S, S > S (one of them alone)", x -> {
             due(gives("1<2"), 1);
@@ -410,18 +442,16 @@ public final class BoundaryTermsTests extends Sentences {
             due(gives("5+7/(a-11)"), 5);
         });
         point(2, "| & < = > ! are 1 or 0, what is not 0 being true", x -> {
-            due(gives("5|0"), 1);
-            due(gives("0|0"), 0);
-            due(gives("2&c"), 1);
-            due(gives("2&0"), 0);
-            due(gives("!c"), 0);
-            due(gives("!0"), 1);
-            due(gives("a<11"), 0);
-            due(gives("a<12"), 1);
-            due(gives("a>11"), 0);
-            due(gives("a>10"), 1);
-            due(gives("a=11"), 1);
-            due(gives("a=10"), 0);
+            String[] truths = {"5|0", "0|c", "2&c", "!0", "a<12", "c<0", "a>10", "0>c", "a=11", "c=0-7"};
+            for (String truth : truths) {
+                due(gives("5+(" + truth + ")"), 6);
+                due(gives("5-(" + truth + ")"), 4);
+            }
+            String[] untruths = {"0|0", "2&0", "0&c", "!5", "!c", "a<11", "0<c", "a>11", "c>0", "a=10", "c=7"};
+            for (String untruth : untruths) {
+                due(gives("5+(" + untruth + ")"), 5);
+                due(gives("5-(" + untruth + ")"), 5);
+            }
         });
         point(2, "FAULT: the place of the first byte with which no TEXT goes on", x -> {
             due(faultOf(0, "x"), 0);
@@ -465,16 +495,17 @@ public final class BoundaryTermsTests extends Sentences {
         });
         point(2, "s SHEETS of its PAGE so far (0 in none)", x -> {
             x.cast(0, 1, 9);
-            text(x, 1, "s");
+            text(x, 1, "1+s");
+            due(x.letterIs(0, 9), 1);
             x.lay(1, 0);
-            due(x.letterIs(0, 9), 0);
+            due(x.letterIs(0, 9), 1);
             x.press(1, 5);
             x.press(2, 7);
-            due(x.letterIs(0, 9), 5);
+            due(x.letterIs(0, 9), 6);
             x.sort(1);
-            due(x.letterIs(0, 9), 0);
+            due(x.letterIs(0, 9), 1);
             x.lay(2, 0);
-            due(x.letterIs(0, 9), 7);
+            due(x.letterIs(0, 9), 8);
         });
         point(2, "SEES held within 0 .. 9", x -> {
             due(seesBy("0-1"), 0);
@@ -626,6 +657,30 @@ public final class BoundaryTermsTests extends Sentences {
             due(x.order(20, -1), 19);
             due(x.order(9, -1), 18);
         });
+        point(3, "(of PAGES of 8 LETTERS, too)", x -> {
+            castSome(x, 24, 39);
+            x.have(0, 4);
+            for (int i = 0; i < 24; i++) {
+                x.lay(1 + i / 8, i);
+            }
+            due(x.order(5, -1), 10);
+            due(x.order(10, -1), 10);
+            x.set(23, 4, 1);
+            due(x.order(5, -1), 10);
+            x.set(22, 0, 1);
+            due(x.order(5, 0), 1);
+            due(x.order(5, 1), 2);
+            due(x.order(5, 2), 3);
+        });
+        point(3, "(where none is CLEAR, the first row of all)", x -> {
+            castSome(x, 2, 29);
+            x.lay(1, 0);
+            x.lay(2, 1);
+            due(x.order(5, -1), 0);
+            due(x.order(5, 0), 1);
+            due(x.order(5, 1), 2);
+            due(x.order(5, 2), NONE);
+        });
         point(3, "(AGE stays)", x -> {
             x.cast(50, 1, 60);
             x.cast(50, 1, 60);
@@ -687,6 +742,31 @@ public final class BoundaryTermsTests extends Sentences {
             x.have(2, 0);
             x.have(3, 0);
             due(x.room(0, 99), 1);
+        });
+        point(3, "(ROOMS 0 .. 3 alone, however warm)", x -> {
+            x.cast(0, 1, 999);
+            x.lay(0, 0);
+            for (int room = 0; room < 4; room++) {
+                x.have(room, -9);
+            }
+            due(x.room(0, 99), 0);
+            x.have(3, -8);
+            due(x.room(0, 99), 3);
+        });
+        point(3, "(of a PAGE of 8 LETTERS, too)", x -> {
+            castSome(x, 8, 60);
+            for (int i = 0; i < 8; i++) {
+                x.set(i, 4, 3);
+                x.lay(0, i);
+            }
+            x.have(1, 6);
+            for (int room = 0; room < 4; room += 2) {
+                x.have(room, 4);
+            }
+            x.have(3, 20);
+            due(x.room(0, 99), 1);
+            x.have(1, 4);
+            due(x.room(0, 99), 3);
         });
         point(3, "ROOM: of several the least", x -> {
             x.cast(0, 1, 60);
@@ -849,6 +929,14 @@ public final class BoundaryTermsTests extends Sentences {
             due(x.letterIs(0, 6), 0);
             due(x.count(4), 1);
             due(x.count(2), 800);
+        });
+        point(3, "(of as many LETTERS as there may be)", x -> {
+            castSome(x, 24, 10);
+            x.have(0, -9);
+            x.seed(seedFor(3));
+            due(x.days(1), 24 * 5);
+            due(x.letterIs(0, 3), 5);
+            due(x.letterIs(23, 3), 5);
         });
         point(3, "half of MELTS (held within ICE)", x -> {
             x.cast(0, 1, 3);

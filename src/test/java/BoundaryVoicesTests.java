@@ -32,6 +32,7 @@ public final class BoundaryVoicesTests extends Sentences {
                 x.set(0, 0, kind);
                 due(x.voice(0, 3, 9), PARTED);
             }
+            due(x.voice(0, 0, 9), 2);
             x.set(0, 1, 1);
             due(x.voice(0, 3, 9), 9);
             due(x.told(6), 7);
@@ -550,6 +551,47 @@ public final class BoundaryVoicesTests extends Sentences {
             due(x.count(6), 2);
             due(x.text(0), -12);
         });
+        promise(36, "All is as the IMAGE has it: as much as there may be", x -> {
+            x.have(4, 99999);
+            castSome(x, 24, 50);
+            for (int i = 0; i < 24; i++) {
+                x.lay(i / 8, 23 - i);
+            }
+            for (int i = 0; i < 8; i++) {
+                word(x, "aaaaaaaa");
+            }
+            text(x, 0, "!0" + "+1".repeat(29));
+            text(x, 1, "!0" + "+1".repeat(29));
+            feed(x, "z".repeat(60));
+            for (int i = 0; i < 24; i++) {
+                x.tell(9);
+            }
+            x.image();
+            x.check(0);
+            x.decree();
+            x.untell(0);
+            x.untell(1);
+            for (int page = 0; page < 3; page++) {
+                x.sort(page);
+            }
+            x.drink(23);
+            x.restore();
+            due(x.count(0), 24);
+            due(x.count(1), 8);
+            due(x.count(5), 24 * 50);
+            due(x.count(6), 60);
+            due(x.count(7), 24);
+            for (int page = 0; page < 3; page++) {
+                due(x.pageIs(page, 3), 23 - 8 * page);
+                due(x.pageIs(page, 10), 16 - 8 * page);
+                due(x.said(page), 255);
+            }
+            due(x.letterIs(23, 9), 9);
+            due(x.check(0), 9);
+            due(x.untell(0) + x.untell(1), 2);
+            due(x.word(), FULL);
+            due(x.decree(), 0);
+        });
         promise(36, "which stays", x -> {
             x.image();
             for (int i = 0; i < 3; i++) {
@@ -624,6 +666,21 @@ public final class BoundaryVoicesTests extends Sentences {
                 }
                 due(x.check(0), 1 + told);
             }
+        });
+        promise(38, "(one that lacks where SEES gives 0)", x -> {
+            castSome(x, 2, 0);
+            x.lay(0, 0);
+            x.lay(0, 1);
+            due(x.check(0), 1);
+            x.tell(0);
+            due(x.check(0), 2);
+            x.tell(0);
+            x.tell(0);
+            due(x.check(0), 0);
+            x.tell(0);
+            x.tell(0);
+            x.tell(0);
+            due(x.check(0), 3);
         });
         promise(38, "(or is too many, too)", x -> {
             x.tell(9);
