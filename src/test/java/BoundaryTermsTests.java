@@ -1018,6 +1018,25 @@ public final class BoundaryTermsTests extends Sentences {
             due(x.body(0), 21);
             due(x.body(1), 13);
         });
+        point(4, "the BODY of its KIND, or of the next KIND above that has one", x -> {
+            castSome(x, 4, 0);
+            x.set(3, 1, 5);
+            int[] answers = {10, 20, 15, 3, 4, 8, 3, -1, 10, -20, -25, 3, 12, 24, 16, -9, 10, -22, -27, 3, 10, 20, 7, 3,
+                2, 9, 4, 3};
+            String[] traces = {"10", "11 10", "12 11 10", "13", "20 10", "11 20 10", "12 11 20 10", "21 13 11 20 10",
+                "10", "30 11 10", "12 30 11 10", "13", "40 20 10", "11 40 20 10", "41 12 11 40 20 10",
+                "21 13 11 40 20 10", "10", "50 30 11 10", "12 50 30 11 10", "13", "10", "11 10", "60 12 11 10", "13",
+                "70", "71 11 70", "12 71 11 70", "13"};
+            for (int i = 0; i < 28; i++) {
+                x.set(3, 0, i / 4);
+                due(x.voice(3, i % 4, 7), answers[i]);
+                String[] bodies = traces[i].split(" ");
+                due(x.count(8), bodies.length);
+                for (int j = 0; j < bodies.length; j++) {
+                    due(x.body(j), Integer.parseInt(bodies[j]));
+                }
+            }
+        });
         point(4, "THE TRACE: the numbers of BODIES of the latest voice()", x -> {
             due(x.count(8), 0);
             x.cast(35, 1, 0);
